@@ -418,9 +418,6 @@ public final class OneWire {
             post[size] = itsPost;
             ears[size] = itsEars;
             came[size] = day;
-            // an undo may have left a later farm's here
-            code[size] = 0;
-            foes[size] = 0;
             return size++;
         }
 
@@ -875,7 +872,6 @@ public final class OneWire {
             asked[size] = now;
             begun[size] = NONE;
             state[size] = WAITING;
-            tapped[size] = 0;
             return size++;
         }
 
@@ -1102,7 +1098,7 @@ public final class OneWire {
         int addRing(long itsWay, boolean so) {
             if (rings >= MOST_RINGS) return FULL;
             way[rings] = itsWay;
-            could = so ? could | 1 << rings : could & ~(1 << rings);
+            if (so) could |= 1 << rings;
             rings++;
             return rings;
         }
@@ -1223,7 +1219,6 @@ public final class OneWire {
             fors[size] = forIt;
             hangsOn[size] = on;
             farms[size] = allFarms;
-            annulled &= ~(1 << size);
             return size++;
         }
 

@@ -226,6 +226,24 @@ public final class CallsTest {
         Due.is("15: lost", x.count(6), 1);
     }
 
+    private static void twoCords() {
+        OneWire x = farms();
+        x.farm(3, 0, 0);
+        x.call(3, 0, 1);
+        x.call(3, 3, 1);
+        x.call(3, 5, 2);
+        x.ring(6, 5, 1);
+        x.minute(1);
+        Due.is("15: two cords", x.board(0, 1), 2);
+        Due.is("15: none for the third", x.of(2, 1), 0);
+        Due.is("15: nor was one for a through", x.of(3, 1), 1);
+        Due.is("15: but it was asked for less", x.of(1, 1), 0);
+        x.minute(1);
+        Due.is("15: both are free", x.board(0, 1), 2);
+        Due.is("15: the second one", x.of(1, 1), 1);
+        Due.is("15: the third one", x.of(2, 1), 1);
+    }
+
     /** A call that can be on in the very minute in which it would be lost is on. */
     private static void lastMinute() {
         OneWire x = farms();
@@ -380,6 +398,7 @@ public final class CallsTest {
         minutes();
         free();
         cords();
+        twoCords();
         lastMinute();
         order();
         lost();

@@ -109,6 +109,12 @@ public final class DuesTest {
         Due.rule(y, "dues 0", 20);
         Due.rule(y, "dues 15", 31);
         Due.is("26: nothing was due on day 30", y.since(0), 60);
+        OneWire z = farms();
+        Due.rule(z, "dues 1;work 0", 0);
+        Due.pass(z, 9000);
+        Due.is("26: a coin is enough", z.since(0), 30);
+        z.pay(0, 0, 2);
+        Due.is("26: a coin is enough", z.since(0), 30);
         // to the last day
         Due.pass(y, 34099);
         Due.is("26: day 400", y.count(3), 40099);

@@ -65,6 +65,7 @@ public final class ImageTest {
         x.maybe(1, 2);
         x.pay(2, 1, 3);
         x.pay(0, 0, 3);
+        x.pay(2, 0, 90);
         x.quarrel(2, 3);
         x.vote(7, 2, 1);
         x.nought(0);
@@ -117,6 +118,48 @@ public final class ImageTest {
         Due.is("35: later", x.undo(), 10);
     }
 
+    /** What is full is not full any more. */
+    private static void room() {
+        OneWire x = new OneWire();
+        x.farm(0, 0, 0);
+        x.farm(0, 0, 0);
+        x.image();
+        for (int time = 0; time < 3; time++) {
+            for (int k = 0; k < 60; k++) {
+                x.pay(0, 0, 1);
+                x.ring(0, 1, 1);
+                Due.rule(x, "tell k=1", 0);
+                x.told(0, 12, k % 3 == time);
+                x.maybe(k / 10 % 4, k % 10);
+                x.vote(3, 2, -1);
+                x.nought(time);
+                x.farm(1, 1, 1);
+                x.code(k % 12, 1, 1);
+                x.quarrel(k % 12, time);
+            }
+            Due.is("35: full", x.pay(0, 0, 1) + x.ring(0, 1, 1) + x.text(0) + x.told(0, 12, true) + x.maybe(3, 9)
+                + x.vote(3, 2, -1) + x.farm(0, 0, 0), 7 * OneWire.FULL);
+            Due.is("35: half came to three, one of them is nought", x.counting(), 7 & ~(1 << time));
+            x.farm(0, 0, 0);
+            x.undo();
+            Due.is("35: farms", x.count(0), 2);
+            Due.is("35: payments", x.pay(0, 0, 1), 1);
+            Due.is("35: calls", x.ring(0, 1, 1), 0);
+            Due.is("35: rules", Due.rule(x, "tell k=1", 0), 0);
+            Due.is("35: told", x.told(0, 12, true), 1);
+            Due.is("35: maybes", x.maybe(3, 9), 1);
+            Due.is("35: all explained", x.storm(0), 0);
+            Due.is("35: meetings", x.vote(3, 2, -1), 0);
+            Due.is("35: not nought any more", x.counting(), 1);
+            for (int k = 1; k < 7; k++) x.vote(3, 2, -1);
+            Due.is("35: none is nought", x.counting(), 127);
+            Due.is("35: farms", x.farm(0, 0, 0), 2);
+            Due.is("35: no code", x.code(2, 0, 0), 0);
+            Due.is("35: no quarrel", x.quarrel(2, 0), 1);
+            x.undo();
+        }
+    }
+
     /** Two objects know nothing of each other. */
     private static void apart() {
         OneWire x = full(), y = full();
@@ -143,6 +186,7 @@ public final class ImageTest {
 
     public static void main(String[] args) {
         images();
+        room();
         apart();
         counts();
         Due.end();

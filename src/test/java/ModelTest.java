@@ -256,9 +256,25 @@ public final class ModelTest {
         }
     }
 
+    /** All rows of best codes. */
+    private static void bests() {
+        OneWire wire = new OneWire();
+        Model model = new Model();
+        for (int farms = 0; farms < 7; farms++) {
+            for (int n = 0; n < 5; n++) {
+                for (int i = -2; i < 7; i++) {
+                    Due.is(farms + " farms: best(2, " + n + ", " + i + ")", wire.best(2, n, i), model.best(2, n, i));
+                }
+            }
+            wire.farm(2, farms, 0);
+            model.farm(2, farms, 0);
+        }
+    }
+
     public static void main(String[] args) {
         int first = args.length > 0 ? Integer.parseInt(args[0]) : 1;
         int runs = args.length > 1 ? Integer.parseInt(args[1]) : 400;
+        bests();
         Map<String, int[]> seen = new HashMap<>();
         for (int seed = first; seed < first + runs; seed++) new ModelTest(seed).run(seed, seen);
         if (args.length > 2) for (String name : NAMES) System.out.println(name + " " + Arrays.toString(seen.get(name)));

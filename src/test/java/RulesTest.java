@@ -289,6 +289,24 @@ public final class RulesTest {
         Due.is("9: no dues", x.force(1, 0, 0), 10);
     }
 
+    /** However many tapes were read, there is room for the next one. */
+    private static void many() {
+        OneWire x = withCalls();
+        String longest = "tell k=9";
+        while (longest.length() < 113) longest += "|k=9";
+        for (int k = 0; k < 20; k++) {
+            Due.feed(x, longest);
+            Due.is("8: none holds", x.tried(1, 0), 0);
+            Due.feed(x, longest + "|k");
+            Due.is("8: a fault", x.text(0), -10 - longest.length() - 2);
+        }
+        for (int k = 0; k < 10; k++) Due.is("8: rule " + k, Due.rule(x, longest + "|k=1", k), k);
+        for (int k = 0; k < 10; k++) Due.is("9: it holds", x.force(5, 0, k), 1);
+        Due.feed(x, longest + "|k=2");
+        Due.is("8: it holds for one", x.tried(1, 0), 0 + 2 - 1);
+        Due.is("9: it holds still", x.force(5, 1, 9), 0);
+    }
+
     public static void main(String[] args) {
         feeds();
         faults();
@@ -299,6 +317,7 @@ public final class RulesTest {
         expressions();
         tells();
         stale();
+        many();
         Due.end();
     }
 }

@@ -150,6 +150,16 @@ public final class WiresTest {
         Due.is("23: both", x.storm(0), 3);
         x.maybe(2, 0);
         Due.is("23: with ten", x.storm(1), 1);
+        // one wire on both ways is found behind two that are on one each
+        OneWire y = farms();
+        y.told(0, 4, false);
+        y.told(1, 12, false);
+        y.maybe(3, 3);
+        y.maybe(0, 5);
+        Due.is("23: the two", y.storm(0), 3);
+        y.maybe(0, 0);
+        Due.is("23: the one for both", y.storm(0), 4);
+        Due.is("23: it alone", y.storm(1), 1);
     }
 
     public static void main(String[] args) {
