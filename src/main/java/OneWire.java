@@ -524,8 +524,11 @@ public final class OneWire {
         /** Finds the best codes of so many farms with up to n signs; false: there are too few codes. */
         boolean search(int farms, int n) {
             if (farms > (1 << (n + 1)) - 2) return false;
+            int upTo = 16 * n + (1 << n) - 1;
+            // nothing else tells them: those that were found last may be asked for one by one
+            if (farms == wanted && upTo == last) return true;
             wanted = farms;
-            last = 16 * n + (1 << n) - 1;
+            last = upTo;
             least = ENDLESS;
             fewest = ENDLESS;
             choose(0, 16, 0, 0);
@@ -777,7 +780,7 @@ public final class OneWire {
             return number;
         }
 
-        void any(int open) {
+        private void any(int open) {
             all(open);
             for (int k = place; k < size && !isFault && next() == '|'; k++) {
                 place++;
