@@ -535,7 +535,7 @@ public final class OneWire {
             return true;
         }
 
-        // Alike farms may swap codes, so the least row rises: rows that rise are all that is tried, least first.
+        // Farms may swap codes and mistakes and signs stay, so the least row rises: only such rows are tried.
         private void choose(int place, int from, int mistakes, int signs) {
             if (mistakes > least || (mistakes == least && signs >= fewest)) return;
             if (place >= wanted || place >= MOST_CODED) {
