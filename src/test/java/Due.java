@@ -2,8 +2,14 @@
 final class Due {
     private static int wrong = 0;
     private static int right = 0;
+    private static String test = "";
 
     private Due() {
+    }
+
+    /** The name of the test that looks at answers from here on. */
+    static void test(String name) {
+        test = name.isEmpty() ? "" : name + ": ";
     }
 
     static void is(String call, long got, long want) {
@@ -11,11 +17,16 @@ final class Due {
             right++;
         } else {
             wrong++;
-            if (wrong <= 50) System.out.println(call + " answered " + got + ", due is " + want);
+            if (wrong <= 50) System.out.println(test + call + " answered " + got + ", due is " + want);
         }
     }
 
-    /** Feeds a text byte by byte groups of eight. */
+    /** How many answers were looked at. */
+    static int looked() {
+        return right + wrong;
+    }
+
+    /** Feeds a text by groups of eight bytes. */
     static void feed(OneWire wire, String text) {
         for (int at = 0; at < text.length(); at += 8) {
             int n = Math.min(8, text.length() - at);
