@@ -534,6 +534,22 @@ public final class EdgesFarmsTest {
         row(line(0, 3), 0, 3, 0, 16, 35, 48);
     }
 
+    // the row of each line and n that there can be
+    static void p06_allRows() {
+        row(line(0, 1), 0, 1, 0, 16);
+        row(line(0, 1), 0, 2, 0, 16);
+        row(line(0, 1), 0, 3, 0, 16);
+        row(line(0, 2), 0, 1, 2, 16, 17);
+        row(line(0, 2), 0, 2, 0, 16, 35);
+        row(line(0, 2), 0, 3, 0, 16, 35);
+        row(line(0, 3), 0, 2, 3, 16, 32, 35);
+        row(line(0, 3), 0, 3, 0, 16, 35, 48);
+        row(line(0, 4), 0, 2, 7, 16, 17, 32, 35);
+        row(line(0, 4), 0, 3, 1, 16, 35, 49, 50);
+        row(line(0, 5), 0, 2, 15, 16, 17, 32, 33, 35);
+        row(line(0, 5), 0, 3, 3, 16, 35, 49, 50, 52);
+    }
+
     // CODES that FARMS have do not matter: of up to n signs any
     static void p06_ofAnyCodes() {
         OneWire x = line(0, 2);

@@ -167,6 +167,43 @@ public final class EdgesMinutesTest {
         }
     }
 
+    // by RANK: of many, however they were asked one behind another
+    static void p15_manyRanks() {
+        OneWire x = with("first 50 f=0;first 40 f=1;first 45 f=2;first 10 f=3;first 48 f=4;first 42 f=5;first 44 f=6");
+        int[] from = {0, 1, 2, 3, 4, 5, 6, 2, 0}, on = {3, 1, 5, 6, 2, 7, 4, 0, 8};
+        for (int farm : from) x.ring(farm, 7, 1);
+        for (int k = 0; k < 9; k++) {
+            x.minute(1);
+            Due.is("minute " + k, x.board(3, 0), on[k]);
+        }
+        OneWire y = with("first 50 f=0;first 40 f=1;first 45 f=2;first 10 f=3;first 48 f=4;first 42 f=5;first 44 f=6");
+        for (int farm : from) y.ring(farm, 7, 1);
+        y.minute(9);
+        for (int k = 0; k < 9; k++) Due.is("waited " + on[k], y.of(on[k], 5), k);
+    }
+
+    // RANK: .. on the DAY on which it was asked, as they wait, too
+    static void p15_rankOfTheDayAsked() {
+        OneWire x = with("first 60 k=1");
+        Due.rule(x, "first 40 k=1", 1);
+        x.minute(97);
+        x.ring(2, 3, 4);
+        x.ring(3, 2, 1);
+        x.minute(3);
+        x.ring(2, 3, 1);
+        x.minute(2);
+        states("that of day 1, 40, ahead of that of day 0, 60", x, ENDED, WAITING, ON);
+        OneWire y = with("first 40 k=1");
+        Due.rule(y, "first 60 k=1", 1);
+        y.minute(97);
+        y.ring(2, 3, 4);
+        y.ring(3, 2, 1);
+        y.minute(3);
+        y.ring(2, 3, 1);
+        y.minute(2);
+        states("that of day 0, 40, ahead of that of day 1, 60", y, ENDED, ON, WAITING);
+    }
+
     // by RANK: also below 0
     static void p15_rankBelow0First() {
         OneWire x = with("first 0 f=0;first 1 f=1;first 0 k=1");

@@ -484,6 +484,19 @@ public final class EdgesRulesTest {
         fault(most.substring(0, 112) + ";first 1", 120);
     }
 
+    // however many texts were read, there is room for as long a one
+    static void p08_manyTexts() {
+        OneWire x = new OneWire();
+        x.farm(0, 0, 0);
+        x.call(3, 0, 1);
+        for (int k = 0; k < 24; k++) {
+            Due.feed(x, "tell k=1" + "|k=1".repeat(28));
+            Due.is("text " + k, k % 3 == 0 ? Due.rule(x, "|", 0) : x.tried(1, 0), k % 3 == 0 ? k / 3 : 0);
+        }
+        Due.is("one more", Due.rule(x, "tell k=1" + "|k=1".repeat(27) + "|k=3", 0), 8);
+        Due.is("it holds", x.force(TELL, 0, 0), 1);
+    }
+
     // ---- promises 9 and 10
 
     /** Farms 0 (line 0), 1 (line 3) and 11 of them on line 1; calls: 0 a ring, 1 a through, 2 out, 3 to all. */

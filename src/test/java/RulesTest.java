@@ -294,7 +294,7 @@ public final class RulesTest {
         OneWire x = withCalls();
         String longest = "tell k=9";
         while (longest.length() < 113) longest += "|k=9";
-        for (int k = 0; k < 20; k++) {
+        for (int k = 0; k < 6; k++) {
             Due.feed(x, longest);
             Due.is("8: none holds", x.tried(1, 0), 0);
             Due.feed(x, longest + "|k");

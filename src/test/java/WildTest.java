@@ -3,7 +3,7 @@ import java.lang.reflect.Modifier;
 import java.util.Arrays;
 import java.util.Random;
 
-/** No call throws, whatever its arguments and however many there were; and a refusal changes nothing. */
+/** No call throws, whatever its arguments, and behind the 512th call of an object as well, when answers are free. */
 public final class WildTest {
     private static final int[] EDGES = {Integer.MIN_VALUE, Integer.MIN_VALUE + 1, -100, -2, -1, 0, 1, 2, 3, 4, 5, 6, 7,
         8, 9, 10, 11, 12, 13, 20, 21, 40, 59, 60, 99, 120, 200, 201, 400, 401, 4095, 4096, Integer.MAX_VALUE};
@@ -14,11 +14,6 @@ public final class WildTest {
         return random.nextInt(3) == 0 ? random.nextInt(13) : EDGES[random.nextInt(EDGES.length)];
     }
 
-    private static boolean isSame(OneWire x, int[] counts) {
-        for (int k = 0; k < 9; k++) if (x.count(k) != counts[k]) return false;
-        return true;
-    }
-
     private static void run(int seed, Method[] calls) throws Exception {
         Random random = new Random(seed);
         OneWire x = new OneWire();
@@ -26,17 +21,12 @@ public final class WildTest {
             Method call = calls[random.nextInt(calls.length)];
             Object[] arguments = new Object[call.getParameterCount()];
             for (int a = 0; a < arguments.length; a++) arguments[a] = argument(call.getParameterTypes()[a], random);
-            int[] counts = new int[9];
-            for (int c = 0; c < 9; c++) counts[c] = x.count(c);
-            int got;
             try {
-                got = (Integer) call.invoke(x, arguments);
+                call.invoke(x, arguments);
             } catch (java.lang.reflect.InvocationTargetException e) {
                 Due.is(call.getName() + Arrays.toString(arguments) + " threw " + e.getCause(), 1, 0);
                 return;
             }
-            // a text with a fault empties the tape, and rank or behind may be like a refusal
-            if (got < 0 && got > -5) Due.is(call.getName() + Arrays.toString(arguments) + " changed", isSame(x, counts) ? 0 : 1, 0);
         }
     }
 

@@ -6,8 +6,8 @@ import java.util.function.Consumer;
 import java.util.function.Supplier;
 import java.util.function.ToIntFunction;
 
-/** Refusals (Terms, ==== 6): "They change nothing", for each refusal of each promise; nor does what is only asked. */
-public final class RefusalsTest {
+/** What changes nothing: refusals (Terms, ==== 6: "They change nothing"), what is only asked, what is undone. */
+public final class UnchangedTest {
     private static final int NONE = Edges.NONE, BAD = Edges.BAD, STATE = Edges.STATE, FULL = Edges.FULL;
     private static final int MIN = Edges.MIN, MAX = Edges.MAX;
     private static final List<Consumer<Log>> PROBES = new ArrayList<>();
@@ -146,7 +146,7 @@ public final class RefusalsTest {
             for (int undone = 0; undone < 2; undone++) {
                 OneWire x = made.get();
                 ahead.applyAsInt(x);
-                Log log = new Log(x, 230);
+                Log log = new Log(x, 260);
                 if (undone == 1) log.is(x.undo());
                 probe.accept(log);
                 if (log.calls > 512) Due.is("calls of one object", log.calls, 512);
@@ -164,11 +164,11 @@ public final class RefusalsTest {
     }
 
     private static void some(String name, int want, ToIntFunction<OneWire> call) {
-        call(name, RefusalsTest::some, want, call);
+        call(name, UnchangedTest::some, want, call);
     }
 
     private static void full(String name, int want, ToIntFunction<OneWire> call) {
-        call(name, RefusalsTest::full, want, call);
+        call(name, UnchangedTest::full, want, call);
     }
 
     private static void ofFarms() {
@@ -306,7 +306,7 @@ public final class RefusalsTest {
     /** That a probe would tell: each of these changes something. */
     private static void changes(String name, ToIntFunction<OneWire> call) {
         String usual = USUAL.get("8");
-        Due.is(name + " changes something", seen(RefusalsTest::some, call).equals(usual) ? 1 : 0, 0);
+        Due.is(name + " changes something", seen(UnchangedTest::some, call).equals(usual) ? 1 : 0, 0);
     }
 
     private static void ofChanges() {
@@ -330,6 +330,68 @@ public final class RefusalsTest {
         changes("35", x -> x.undo());
     }
 
+    /** Much of all that there is, and more. */
+    private static void change(OneWire x) {
+        x.farm(1, 0, 0);
+        x.code(0, 4, 4);
+        x.code(3, 0, 0);
+        Due.feed(x, ";dues 2");
+        x.text(0);
+        Due.rule(x, "first 1 l=0;cords 0;near 100;tell !k=1", 0);
+        Due.feed(x, "work 1");
+        x.listen(7, 1);
+        x.listen(8, 1);
+        x.ring(5, 1, 1);
+        x.minute(3);
+        x.ring(2, 4, 1);
+        x.minute(200);
+        for (int wire = 0; wire < 10; wire++) x.down(wire % 4, wire, wire % 2 == 0);
+        x.told(1, 2, true);
+        x.told(4, 12, false);
+        x.maybe(1, 1);
+        x.maybe(1, 2);
+        x.pay(2, 1, 3);
+        x.pay(0, 0, 3);
+        x.quarrel(2, 3);
+        x.vote(7, 2, 1);
+        x.nought(1);
+    }
+
+    private static int undone(OneWire x) {
+        change(x);
+        return x.undo();
+    }
+
+    private static void ofImages() {
+        String taken = seen(UnchangedTest::some, OneWire::image);
+        Due.is("34: to take it changes nothing but it", taken.equals(USUAL.get("8")) ? 1 : 0, 0);
+        String changed = seen(UnchangedTest::some, x -> {
+            change(x);
+            return x.image();
+        });
+        Due.is("35: much is changed", changed.equals(taken) ? 1 : 0, 0);
+        String back = seen(UnchangedTest::some, x -> x.image() + undone(x));
+        Due.is("35: all is as the image", back.equals(taken) ? 1 : 0, 1);
+        String twice = seen(UnchangedTest::some, x -> x.image() + undone(x) + undone(x));
+        Due.is("35: once more", twice.equals(taken) ? 1 : 0, 1);
+        String again = seen(UnchangedTest::some, x -> x.image() + undone(x) + x.image());
+        Due.is("34: taken again", again.equals(taken) ? 1 : 0, 1);
+        String later = seen(UnchangedTest::some, x -> {
+            x.image();
+            change(x);
+            x.image();
+            return x.minute(9) + x.farm(0, 0, 0) + x.undo();
+        });
+        Due.is("34: a later one", later.equals(changed) ? 1 : 0, 1);
+        String apart = seen(UnchangedTest::some, x -> {
+            OneWire y = some();
+            change(y);
+            y.image();
+            return undone(y);
+        });
+        Due.is("34: another object's", apart.equals(USUAL.get("8")) ? 1 : 0, 1);
+    }
+
     public static void main(String[] args) {
         probes();
         ofFarms();
@@ -339,6 +401,7 @@ public final class RefusalsTest {
         ofDues();
         ofMeetings();
         ofChanges();
+        ofImages();
         Due.end();
     }
 }
